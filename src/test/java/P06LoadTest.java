@@ -30,6 +30,11 @@ public final class P06LoadTest {
                 d.isNotLoaded(1, 1, with(new int[] {0}, java.util.Arrays.copyOf(whole, whole.length - 1)));
             }
         }
+        names();
+    }
+
+    private static void names() {
+        Desk d = new Desk();
         for (int operation : new int[] {2, 3, 11, 12, 15, 16, 27}) {
             d.isNotLoaded(1, 0, operation, 13, 0).isNotLoaded(1, 0, operation, 255, 0);
         }

@@ -29,6 +29,13 @@ public final class P07FaultTest {
             "$", "#", "~", "\"", "_"}) {
             d.isRefused(c, 1, 0).isRefused("  " + c, 1, 2).isRefused("a=1;" + c, 1, 4);
         }
+        statements();
+        expressions();
+        blocks();
+    }
+
+    private static void statements() {
+        Desk d = new Desk();
         d.isRefused("a", 1, 1).isRefused("a  ", 1, 3).isRefused("a;", 1, 1).isRefused("a[1]=1;", 1, 1);
         d.isRefused("ab=1;", 1, 1).isRefused("n>1;", 1, 1).isRefused("A;", 1, 1).isRefused("A<0;", 1, 1);
         d.isRefused("A:n;", 1, 1).isRefused("A!;", 1, 1).isRefused("A[1]:n;", 1, 4).isRefused("A[1]!;", 1, 4);
@@ -38,13 +45,22 @@ public final class P07FaultTest {
         d.isRefused("a:1;", 1, 2).isRefused(">1;", 1, 1).isRefused(">A;", 1, 1).isRefused(">a+1;", 1, 2);
         d.isRefused("A=B;", 1, 3).isRefused("A=B+;", 1, 4).isRefused("A=b+C;", 1, 2).isRefused("A=B+c;", 1, 4);
         d.isRefused("A=B+C+D;", 1, 5).isRefused("A=B.C;", 1, 3).isRefused("A=B^C;", 1, 3).isRefused("A=B[1]+C;", 1, 3);
-        d.isRefused("A=1;", 1, 2).isRefused("n=A;", 1, 3).isRefused("n=A.;", 1, 4).isRefused("n=A.b;", 1, 4);
+        d.isRefused("A=1;", 1, 2);
+    }
+
+    private static void expressions() {
+        Desk d = new Desk();
+        d.isRefused("n=A;", 1, 3).isRefused("n=A.;", 1, 4).isRefused("n=A.b;", 1, 4);
         d.isRefused("n=A.B+1;", 1, 5).isRefused("n=(A.B);", 1, 4).isRefused("n=-A.B;", 1, 4).isRefused("n=1+A.B;", 1, 5);
         d.isRefused("n=A . B^;", 1, 7).isRefused("n=A+B;", 1, 3).isRefused("n=A*2;", 1, 3).isRefused("n=A", 1, 3);
         d.isRefused("n=;", 1, 2).isRefused("n=+1;", 1, 2).isRefused("n=1+;", 1, 4).isRefused("n=1**2;", 1, 4);
         d.isRefused("n=1^2;", 1, 4).isRefused("n=^1;", 1, 2).isRefused("n=();", 1, 3).isRefused("n=(1;", 1, 4);
         d.isRefused("n=1);", 1, 3).isRefused("n=a b;", 1, 4).isRefused("n=2a;", 1, 3).isRefused("n=a(1);", 1, 3);
         d.isRefused("n=1", 1, 3).isRefused("n=(1", 1, 4).isRefused("n=A[1", 1, 5).isRefused("n=-", 1, 3);
+    }
+
+    private static void blocks() {
+        Desk d = new Desk();
         d.isRefused("?A[|]", 1, 1).isRefused("?a(|)", 1, 2).isRefused("?a[]", 1, 3).isRefused("?a[|", 1, 4);
         d.isRefused("?a[||]", 1, 4).isRefused("?a[|];", 1, 5).isRefused("?1[|]", 1, 1).isRefused("?a;", 1, 2);
         d.isRefused("*a[|]", 1, 3).isRefused("*a[", 1, 3).isRefused("*a[] ;", 1, 5).isRefused("*[]", 1, 1);
