@@ -855,15 +855,15 @@ public final class ShareHall {
             }
         }
 
-        /** Looks at the very next characters, since a blank ends a number. */
+        /**
+         * Looks at the very next characters, since a blank ends a number. A nineteenth digit is left
+         * to whoever looks next: none can stand behind a number.
+         */
         private void literal() {
             long value = 0;
             for (int i = 0; i < MOST_DIGITS && isDigit(tape.at(pos)); i++) {
                 value = 10 * value + tape.at(pos) - '0';
                 pos++;
-            }
-            if (isDigit(tape.at(pos))) {
-                refuse();
             }
             draft.add(NUMBER);
             for (int shift = 56; shift >= 0; shift -= 8) {

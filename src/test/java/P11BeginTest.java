@@ -9,6 +9,7 @@ public final class P11BeginTest {
         inputsGoOn();
         errorsAreGone();
         startsAtZero();
+        pileIsEmpty();
         Desk.end();
     }
 
@@ -58,5 +59,15 @@ public final class P11BeginTest {
             d.ask("run 2000");
             d.each(2, "output", " 0", 1).each(2, "output", " 1", 1).each(2, "output", " 2", 1);
         }
+    }
+
+    /** Runs that are left amid an expression leave nothing on the pile. */
+    private static void pileIsEmpty() {
+        Desk d = new Desk().ready(2, "a=1+(2+(3+(4+(5+(6+(7+(8+9)))))));@1;@1[@2;]@2[b=a;]");
+        for (int i = 0; i < 80; i++) {
+            d.due("step 0", 1).due("begin", 1);
+        }
+        d.ask("run 2000");
+        d.each(2, "clear", " 0", 45).each(2, "clear", " 1", 45).each(2, "party", " 0", 2).each(2, "party", " 30", 0);
     }
 }

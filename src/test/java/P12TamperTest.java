@@ -10,6 +10,7 @@ public final class P12TamperTest {
         thatCancelOut();
         thatAreNotSent();
         sendsAreCounted();
+        thatFitTheCoins();
         Desk.end();
     }
 
@@ -105,5 +106,39 @@ public final class P12TamperTest {
         Desk waits = new Desk();
         waits.due("deal 0 2", 2).due("give 0 1", 1).due("give 0 2", 1).tape("n<0;o<0;").due("compile", 7).due("begin", 1);
         waits.due("step 0", 1).due("step 0", 1).due("step 0", 0).due("tamper 0 1 0 5", 1).due("tamper 0 0 0 5", 0);
+    }
+
+    /**
+     * Who knows the coins ahead can choose errors whose weighted sum is 0: no check finds these. With
+     * one of them changed by 1 they are found.
+     */
+    private static void thatFitTheCoins() {
+        for (int change = 0; change < 2; change++) {
+            fitting(2, "a:n;b:n;>a;", 0, 0, new int[][] {{0, 0, 0}, {1, 0, 1}}, change);
+            fitting(3, "p=n*o;c:n;a:p;b:n;>a;", 0, 0, new int[][] {{0, 1, 1}, {3, 0, 4}}, change);
+            fitting(4, "n=n^;c:n;G=E*F;p=E.F;>c;", 0, 0, new int[][] {{2, 30, 32}, {3, 1, 35}}, change);
+            fitting(2, "a:n;>n;b:n;c:n;>a;", 6, 3, new int[][] {{2, 0, 0}, {3, 0, 1}}, change);
+        }
+    }
+
+    /**
+     * Two errors (send, number in it, number in the check); ahead of the check each party has drawn
+     * some of its numbers, and so many checks have been.
+     */
+    private static void fitting(int parties, String text, int drawn, int skipped, int[][] errors, int change) {
+        java.math.BigInteger p = java.math.BigInteger.valueOf(Desk.P);
+        java.math.BigInteger coins = java.math.BigInteger.ZERO;
+        for (int i = 0; i < parties; i++) {
+            coins = coins.add(java.math.BigInteger.valueOf(P19BoundTest.next(77 + 1000003L * (i + 1), drawn))).mod(p);
+        }
+        java.math.BigInteger first = java.math.BigInteger.valueOf(P19BoundTest.next(coins.longValue(), errors[0][2]));
+        java.math.BigInteger second = java.math.BigInteger.valueOf(P19BoundTest.next(coins.longValue(), errors[1][2]));
+        java.math.BigInteger e = first.multiply(java.math.BigInteger.valueOf(-5)).multiply(second.modInverse(p)).mod(p);
+        Desk d = new Desk().ready(parties, text);
+        d.due("tamper 0 " + errors[0][0] + " " + errors[0][1] + " 5", 1);
+        d.due("tamper 1 " + errors[1][0] + " " + errors[1][1] + " " + (e.longValue() + change), 1);
+        d.ask("run 2000");
+        d.each(parties, "party", " 9", change).each(parties, "party", " 8", 1 + (skipped == 0 ? 0 : 2));
+        d.each(parties, "party", " 0", change == 0 ? 2 : 3);
     }
 }
