@@ -1527,7 +1527,6 @@ public final class ShareHall {
             check.startAnew();
             post.wipe();
             outCount = 0;
-            standing = GOES_ON;
             cause = 0;
             lack = 0;
             steps = 0;

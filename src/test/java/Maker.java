@@ -205,7 +205,8 @@ final class Maker {
         List<Integer> targets = new ArrayList<>();
         List<Integer> jumps = new ArrayList<>();
         String pile = "";
-        for (int i = 0; i < 10 + below(50); i++) {
+        int length = 10 + below(chance(0.2) ? 250 : 50);
+        for (int i = 0; i < length; i++) {
             if (pile.isEmpty()) {
                 targets.add(code.size());
             }

@@ -108,6 +108,10 @@ public final class ModelTest {
             ask("party " + maker.within(0, last) + " " + maker.within(0, 30));
         } else if (r < 98) {
             ask("run 2000");
+        } else if (maker.chance(0.1)) {
+            type(maker.spoiled(maker.oneOf(">a;", "n<0;>n;", "a:n;>a;")));
+            ask("compile");
+            look();
         } else {
             look();
         }
@@ -116,7 +120,7 @@ public final class ModelTest {
     private void mixed(boolean typed) {
         prepare();
         if (typed) {
-            String text = maker.program(model.partiesNow());
+            String text = (maker.chance(0.15) ? "d=1;".repeat(30) : "") + maker.program(model.partiesNow());
             type(maker.chance(0.2) ? maker.spoiled(text) : text);
             ask("compile");
         } else {

@@ -106,6 +106,8 @@ public final class P07FaultTest {
         d.isRefused("?a[|".repeat(21) + "]".repeat(21), 1, 80);
         d.tape("*a[".repeat(19) + "a=(1);b=-1;c=A[1];A[1]=1;" + "]".repeat(19));
         d.due("compile", 19 * 7 + 11 + 12 + 13 + 20 + 1);
+        d.tape("?a[|]".repeat(30)).due("compile", 211).tape("*a[]".repeat(30)).due("compile", 211);
+        d.tape("a=(1);b=-1;c=A[1];A[1]=1;".repeat(12)).due("compile", 12 * 56 + 1);
         d.isRefused("*a[".repeat(20) + "a=1;b=(1);" + "]".repeat(20), 1, 66);
         d.isRefused("*a[".repeat(20) + "A[1]=1;" + "]".repeat(20), 1, 61);
         d.isRefused("*a[".repeat(20) + "a=-1;" + "]".repeat(20), 1, 62);

@@ -10,6 +10,7 @@ public final class P11BeginTest {
         errorsAreGone();
         startsAtZero();
         pileIsEmpty();
+        noticesAreGone();
         Desk.end();
     }
 
@@ -69,5 +70,12 @@ public final class P11BeginTest {
         }
         d.ask("run 2000");
         d.each(2, "clear", " 0", 45).each(2, "clear", " 1", 45).each(2, "party", " 0", 2).each(2, "party", " 30", 0);
+    }
+
+    private static void noticesAreGone() {
+        Desk d = new Desk().ready(3, "a:n;>a;");
+        d.due("tamper 0 0 0 1", 1).due("run 9", 27).due("step 1", 3).due("step 0", 3).due("deliver 0 2", 1);
+        d.due("party 1 10", 1).due("party 1 12", 1).due("party 0 12", 0).due("begin", 1).due("party 1 10", 0);
+        d.due("party 1 12", 0).due("deliver 1 0", 0).due("step 2", 1).due("run 2000", 32).each(3, "party", " 9", 0);
     }
 }

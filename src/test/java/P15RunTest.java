@@ -11,6 +11,7 @@ public final class P15RunTest {
         noticesAreDelivered();
         behindThirtyThousand();
         reckons();
+        farPlaces();
         Desk.end();
     }
 
@@ -66,5 +67,22 @@ public final class P15RunTest {
         d.ask("run 2000");
         d.each(3, "output", " 0", 1).each(3, "output", " 1", 10).each(3, "output", " 2", Desk.P - 1);
         d.each(3, "output", " 3", 0).each(3, "party", " 4", 4);
+    }
+
+    /** Places beyond 255, of each operation that goes on elsewhere. */
+    private static void farPlaces() {
+        Desk d = new Desk().ready(2, "d=1;".repeat(50) + "@1;?e[|f=7;]g=3;*g[f=f+1;g=g-1;]>f;@1[h=h+1;]@1;");
+        d.ask("run 2000");
+        d.each(2, "output", " 0", 10).each(2, "clear", " 7", 2).each(2, "party", " 0", 2);
+        int[] code = new int[517];
+        code[0] = 18;
+        code[1] = 2;
+        code[2] = 3;
+        code[515] = 29;
+        Desk far = new Desk();
+        far.loads(515, code).due("begin", 1).due("step 0", 1).due("step 0", 4).due("party 0 7", 7);
+        code[1] = 1;
+        code[2] = 255;
+        far.loads(515, code).due("begin", 1).due("step 0", 1).due("step 0", 2);
     }
 }

@@ -5,6 +5,7 @@ public final class P16PartyTest {
         otherNumbers();
         counts();
         mails();
+        mailsWithoutRun();
         Desk.end();
     }
 
@@ -56,5 +57,13 @@ public final class P16PartyTest {
         }
         d.due("deliver 2 3", 1).due("party 2 13", 1).due("party 3 22", 1).due("deliver 2 3", 1).due("party 3 22", 2);
         d.due("step 3", 1).due("party 3 22", 1).due("party 2 13", 0).due("party 2 10", 2).due("party 2 23", 0);
+    }
+
+    private static void mailsWithoutRun() {
+        Desk d = new Desk().ready(2, "@1;@1[a:n;]");
+        d.due("step 0", 1).due("step 0", 1).due("step 1", 1).due("step 1", 1).due("deliver 1 0", 1);
+        d.due("party 0 11", 1).due("party 0 21", 1).due("party 0 30", 1).due("compile", 1);
+        d.due("party 0 11", 0).due("party 0 21", 0).due("party 0 30", 0).due("party 0 1", 0).due("party 0 2", 0);
+        d.due("deliver 0 1", 0).due("tamper 0 5 0 1", 0).due("run 5", 0);
     }
 }

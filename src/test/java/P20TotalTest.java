@@ -13,6 +13,23 @@ public final class P20TotalTest {
         d.ask("run 2000");
         d.due("total 1", 3).due("total 4", 6).due("total 2", 36).due("begin", 1).due("total 1", 3).due("total 2", 36);
         d.due("hall 2 0 1", 1).due("total 2", 36).due("total 3", 0).due("total 0", 2).due("total 5", 1).due("total 1", 0);
+        whoHasMost();
         Desk.end();
+    }
+
+    /** Whichever party it is that has most. */
+    private static void whoHasMost() {
+        for (int behind = 0; behind < 3; behind++) {
+            Desk d = new Desk();
+            d.due("hall 3 0 1", 1).due("deal -1 5", 5).due("deal -2 5", 5).due("deal -3 5", 5);
+            d.tape("n!;n=n*n;").due("compile", 10).due("begin", 1);
+            for (int i = 0; i < 6; i++) {
+                if (i % 3 != behind) {
+                    d.due("step " + i % 3, 1);
+                }
+            }
+            d.due("total 1", 5).due("total 6", 5).due("deal -1 1", 6).due("deal -3 0", 5).due("step " + behind, 1);
+            d.due("total 6", 4).due("total 1", 6).due("step " + behind, 1).due("total 1", 5);
+        }
     }
 }
