@@ -126,9 +126,7 @@ public final class ShareHall {
     private static final long OWN_SEED_STRIDE = 1000003L;
     private static final long BITS_SEED_OFFSET = 7000003L;
 
-    private final Row tape;
     private final Row together;
-    private final Row program;
     private final Translator translator;
     private final Verifier verifier;
     private final Hall hall;
@@ -138,16 +136,14 @@ public final class ShareHall {
     private int faultPlace;
 
     public ShareHall() {
-        tape = new Row(MOST_TAPE);
         together = new Row(MOST_BYTES);
-        program = new Row(MOST_BYTES);
-        translator = new Translator(tape);
+        translator = new Translator();
         verifier = new Verifier();
-        hall = new Hall(program);
+        hall = new Hall();
     }
 
     public boolean type(long word, int n) {
-        return tape.addWord(word, n, 32, 126);
+        return translator.tape.addWord(word, n, 32, 126);
     }
 
     public boolean put(long word, int n) {
@@ -162,7 +158,6 @@ public final class ShareHall {
             return false;
         }
         hallsMade++;
-        program.wipe();
         hall.renew(parties, seed, bound);
         return true;
     }
@@ -171,15 +166,14 @@ public final class ShareHall {
         translator.startAnew(hall.size);
         translator.statements();
         translator.finish();
-        tape.wipe();
+        translator.tape.wipe();
         faultKind = translator.kind;
         faultPlace = translator.place;
         if (faultKind != 0) {
             throw new IllegalArgumentException("the tape has a fault");
         }
-        hall.running = false;
-        program.copy(translator.draft);
-        return program.size;
+        hall.take(translator.draft);
+        return hall.code.size;
     }
 
     public int load() throws IllegalArgumentException {
@@ -190,8 +184,7 @@ public final class ShareHall {
             together.wipe();
             throw new IllegalArgumentException("the verifier refuses the code");
         }
-        hall.running = false;
-        program.copy(together);
+        hall.take(together);
         together.wipe();
         return verifier.operations;
     }
@@ -204,7 +197,7 @@ public final class ShareHall {
     }
 
     public int code(int i) {
-        return program.at(i);
+        return hall.code.at(i);
     }
 
     public int deal(int party, int n) throws IllegalArgumentException {
@@ -231,7 +224,7 @@ public final class ShareHall {
     }
 
     public boolean begin() {
-        if (program.size == 0) {
+        if (hall.code.size == 0) {
             return false;
         }
         hall.startAnew();
@@ -345,7 +338,7 @@ public final class ShareHall {
             case 2:
                 return hall.stepsInAll;
             case 3:
-                return program.size;
+                return hall.code.size;
             case 4:
                 return hall.mostLeft(SQUARES);
             case 5:
@@ -509,8 +502,8 @@ public final class ShareHall {
         private int kind;
         private int place;
 
-        Translator(Row tape) {
-            this.tape = tape;
+        Translator() {
+            tape = new Row(MOST_TAPE);
             draft = new Row(MOST_BYTES);
             toldAt = new int[10];
             doneAt = new int[10];
@@ -1622,8 +1615,8 @@ public final class ShareHall {
         private boolean running;
         private int stepsInAll;
 
-        Hall(Row code) {
-            this.code = code;
+        Hall() {
+            code = new Row(MOST_BYTES);
             parties = new Party[MOST_PARTIES];
             for (int i = 0; i < MOST_PARTIES; i++) {
                 parties[i] = new Party(i);
@@ -1641,11 +1634,18 @@ public final class ShareHall {
             seed = newSeed;
             bound = newBound;
             running = false;
+            code.wipe();
             zeroInts(dealt);
             for (int i = 0; i < MOST_PARTIES; i++) {
                 parties[i].stock.wipe();
                 parties[i].check.drawn = 0;
             }
+        }
+
+        /** A run of other code is none any more. */
+        void take(Row bytes) {
+            running = false;
+            code.copy(bytes);
         }
 
         boolean has(int party) {
