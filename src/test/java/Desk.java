@@ -10,6 +10,7 @@ final class Desk {
 
     private static int wrong;
     private static int asked;
+    private static String sentence = "";
 
     private static final int MOST_CALLS = 512;
 
@@ -30,7 +31,7 @@ final class Desk {
         made++;
         if (made == MOST_CALLS + 1) {
             wrong++;
-            System.out.println("this test is too long: what call " + made + " answers is free");
+            System.out.println(spokenOf() + "this test is too long: what call " + made + " answers is free");
         }
         String[] parts = line.split(" ");
         long[] args = new long[parts.length - 1];
@@ -52,7 +53,7 @@ final class Desk {
         String got = ask(line);
         if (!got.equals(String.valueOf(want))) {
             wrong++;
-            System.out.println(line + " answered " + got + ", due is " + want + "; the calls were:\n" + past);
+            System.out.println(spokenOf() + line + " answered " + got + ", due is " + want + "; the calls were:\n" + past);
         }
         return this;
     }
@@ -61,8 +62,17 @@ final class Desk {
         asked++;
         if (!String.valueOf(got).equals(String.valueOf(want))) {
             wrong++;
-            System.out.println(what + " is " + got + ", due is " + want);
+            System.out.println(spokenOf() + what + " is " + got + ", due is " + want);
         }
+    }
+
+    /** The sentence of the document that is tested from now on. */
+    static void speakOf(String newSentence) {
+        sentence = newSentence;
+    }
+
+    private static String spokenOf() {
+        return sentence.isEmpty() ? "" : "\"" + sentence + "\": ";
     }
 
     Desk tape(String text) {
@@ -116,9 +126,45 @@ final class Desk {
         for (int kind = -3; kind < parties; kind++) {
             due("deal " + kind + " 100", 100);
         }
+        return starts(text);
+    }
+
+    /** A program that is compiled and begun in the hall as it is. */
+    Desk starts(String text) {
         tape(text);
         ask("compile");
         return due("fault 0", 0).due("begin", 1);
+    }
+
+    /** Rounds till nothing moves any more, however many steps that takes. */
+    Desk runs() {
+        ask("run 2000");
+        return this;
+    }
+
+    /** The same call for each of some arguments, which end it. */
+    Desk all(String call, Object want, String... ends) {
+        for (String end : ends) {
+            due(call + " " + end, want);
+        }
+        return this;
+    }
+
+    /** The clear variables of a party, from a on. */
+    Desk clears(int party, long... values) {
+        for (int v = 0; v < values.length; v++) {
+            due("clear " + party + " " + v, values[v]);
+        }
+        return this;
+    }
+
+    /** All that a party has put out. */
+    Desk outputs(int party, long... values) {
+        due("party " + party + " 4", values.length);
+        for (int k = 0; k < values.length; k++) {
+            due("output " + party + " " + k, values[k]);
+        }
+        return this;
     }
 
     /** The same call for each party. */

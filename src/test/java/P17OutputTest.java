@@ -1,25 +1,28 @@
 /** Promise 17: what was put out. */
 public final class P17OutputTest {
     public static void main(String[] args) {
-        Desk d = new Desk();
-        d.due("output 0 0", Desk.ELEMENT);
-        d.ready(3, "a=1;>a;a=2;>a;n<0;>n;>a;");
-        d.due("give 0 -5", 1).due("output 0 0", Desk.ELEMENT).due("run 2", 6).due("output 0 0", 1).due("output 2 0", 1);
-        d.due("output 0 1", Desk.ELEMENT);
-        d.ask("run 2000");
-        d.each(3, "output", " 1", 2).each(3, "output", " 2", Desk.P - 5).each(3, "output", " 3", 2);
-        for (String none : new String[] {"0 4", "0 -1", "0 2147483647", "0 -2147483648", "3 0", "-1 0", "2147483647 0"}) {
-            d.due("output " + none, Desk.ELEMENT);
+        Edge.of("The k-th number that a PARTY has put out in this RUN", P17OutputTest::inOrder);
+        Edge.of("The k-th number that a PARTY has put out in this RUN", P17OutputTest::ofEachParty);
+        Edge.of("The k-th number that a PARTY has put out in this RUN", P17OutputTest::many);
+        Edge.of("NoSuchElementException: there is none such", P17OutputTest::noneSuch);
+        Edge.of("NoSuchElementException: there is none such", P17OutputTest::otherRuns);
+        Edge.end();
+    }
+
+    private static void inOrder() {
+        Desk d = new Desk().ready(3, "a=1;>a;a=2;>a;n<0;>n;>a;").due("give 0 -5", 1).runs();
+        for (int i = 0; i < 3; i++) {
+            d.outputs(i, 1, 2, Desk.P - 5, 2);
         }
-        d.due("begin", 1).due("output 0 0", Desk.ELEMENT).due("compile", 1).due("output 0 0", Desk.ELEMENT);
-        many();
-        Desk.end();
+    }
+
+    private static void ofEachParty() {
+        Desk d = new Desk().starts("a=1;>a;a=2;>a;").all("step", 1, "0", "0", "1").due("output 0 0", 1).due("output 1 0", Desk.ELEMENT);
+        d.due("step 0", 1).due("output 0 1", Desk.ELEMENT).due("step 0", 1).due("output 0 1", 2).due("step 1", 1).due("output 1 0", 1);
     }
 
     private static void many() {
-        Desk d = new Desk();
-        d.loads(5, 2, 0, 1, 0, 0, 0, 0, 0, 0, 0, 1, 4, 11, 0, 0).tape("a=1;*a[>a;a=a+1;]").due("compile", 35);
-        d.due("begin", 1);
+        Desk d = new Desk().starts("a=1;*a[>a;a=a+1;]");
         for (int i = 0; i < 7; i++) {
             d.due("run 2000", 4000);
         }
@@ -27,6 +30,22 @@ public final class P17OutputTest {
         for (int k : new int[] {0, 1, 15, 16, 17, 31, 32, 33, 1000, 2047, 2048, 2998, 2999}) {
             d.due("output 0 " + k, k + 1).due("output 1 " + k, k + 1);
         }
-        d.due("output 0 3000", Desk.ELEMENT);
+        d.due("output 0 3000", Desk.ELEMENT).due("begin", 1).due("output 0 0", Desk.ELEMENT);
+    }
+
+    private static void noneSuch() {
+        Desk d = new Desk();
+        d.due("output 0 0", Desk.ELEMENT).starts("a=1;>a;a=2;>a;").due("output 0 0", Desk.ELEMENT).runs();
+        d.all("output", Desk.ELEMENT, "0 2", "0 3", "0 -1", "0 2147483647", "0 -2147483648", "2 0", "3 0", "-1 0", "2147483647 0", "-2147483648 0");
+        d.due("output 1 1", 2).due("output 1 2", Desk.ELEMENT);
+        new Desk().starts("").due("output 0 0", Desk.ELEMENT);
+    }
+
+    private static void otherRuns() {
+        Desk d = new Desk().starts(">a;").runs().due("output 0 0", 0).due("begin", 1).due("output 0 0", Desk.ELEMENT).runs().due("output 0 0", 0);
+        d.due("compile", 1).due("output 0 0", Desk.ELEMENT).starts(">a;").runs().loads(1, 0).due("output 0 0", Desk.ELEMENT);
+        d.starts(">a;").runs().due("output 0 0", 0).due("hall 2 0 1", 1).due("output 0 0", Desk.ELEMENT);
+        Desk failed = new Desk().starts(">a;b:n;>b;").due("tamper 0 0 0 1", 1).runs().outputs(0, 0).outputs(1, 0);
+        failed.due("output 0 1", Desk.ELEMENT);
     }
 }
