@@ -69,6 +69,8 @@ public final class P12TamperTest {
         Desk waits = new Desk();
         waits.due("deal 0 2", 2).due("give 0 1", 1).due("give 0 2", 1).starts("n<0;o<0;");
         waits.due("step 0", 1).due("step 0", 1).due("step 0", 0).due("tamper 0 1 0 5", 1).due("tamper 0 0 0 5", 0);
+        Desk shown = new Desk().ready(2, ">n;a:n;").due("step 0", 1).due("tamper 0 0 0 1", 0).due("tamper 1 0 0 0", 1).due("run 2000", 25);
+        shown.due("tamper 0 1 0 1", 0).due("tamper 0 2 0 1", 1);
         waits.due("tamper 1 0 0 5", 1).runs().due("tamper 0 1 0 5", 0).due("tamper 0 2 0 5", 1);
     }
 
@@ -107,6 +109,7 @@ public final class P12TamperTest {
         failed.due("run 9", 0).clears(0, 1, 0);
         Desk lacks = new Desk().starts("n!;a:n;").due("step 0", 4).due("tamper 0 0 0 5", 1).due("run 9", 0);
         lacks.due("party 0 7", 6);
+        new Desk().ready(2, ">n;").due("tamper 0 0 1 5", 1).due("tamper 1 0 31 5", 1).runs().outputs(0, 0).each(2, "party", " 9", 0);
         Desk other = new Desk().ready(2, "n<0;n=n^;n=n*n;a:n;");
         other.due("give 0 2", 1).due("tamper 1 2 1 5", 1).due("tamper 0 0 1 5", 1).due("tamper 0 1 1 5", 1).due("tamper 0 2 2 5", 1).runs();
         other.clears(0, 16);

@@ -59,7 +59,8 @@ public final class T03FaultsTest {
         d.isRefused(">a+1;", 1, 2).isRefused(">>a;", 1, 1).isRefused("A=B;", 1, 3).isRefused("A=B+;", 1, 4);
         d.isRefused("A=b+C;", 1, 2).isRefused("A=B+c;", 1, 4).isRefused("A=B+C+D;", 1, 5).isRefused("A=B.C;", 1, 3);
         d.isRefused("A=B^C;", 1, 3).isRefused("A=B[1]+C;", 1, 3).isRefused("A=B+C[1];", 1, 5).isRefused("A=1;", 1, 2);
-        d.isRefused("A=-B;", 1, 2).isRefused("A=(B+C);", 1, 2);
+        d.isRefused("A=-B;", 1, 2).isRefused("A=(B+C);", 1, 2).isRefused("A=BC;", 1, 3).isRefused("A=B C;", 1, 4);
+        d.isRefused("n=AB;", 1, 3).isRefused("A=B/C;", 1, 3);
     }
 
     private static void withinExpressions() {
@@ -250,6 +251,7 @@ public final class T03FaultsTest {
         for (String sign : new String[] {"+", "-", "*"}) {
             d.isRefused("A=E" + sign + "B;", 3, 0).isRefused("A=B" + sign + "E;", 3, 0).isRefused(" D=H" + sign + "H;", 3, 1);
             d.tape("A=B" + sign + "C;E=A" + sign + "B;E=A" + sign + "F;E=F" + sign + "G;").due("compile", 17);
+            d.tape("A=D" + sign + "B;D=A" + sign + "D;").due("compile", 9);
         }
     }
 
@@ -267,5 +269,9 @@ public final class T03FaultsTest {
         d.isRefused("@3;@2;@2[]", 5, 0).isRefused("@2;@3;@2[]", 5, 3).isRefused("?a[|@4;]", 5, 4).isRefused("@4[@5;]", 5, 3);
         d.tape("@1[@1;]").due("compile", 8).tape("@0[]@9[]@0;@0;").due("compile", 15).tape("@1;@1[]").due("compile", 8);
         d.tape("@1[]").due("compile", 5).isRefused("@2;", 5, 0).isRefused("@1;", 5, 0);
+        for (int digit = 0; digit < 10; digit++) {
+            d.isRefused(">a;@" + digit + ";", 5, 3).isRefused("@" + digit + "[]@" + digit + "[]", 5, 4);
+            d.tape("@" + digit + ";@" + digit + "[]").due("compile", 8);
+        }
     }
 }

@@ -3,6 +3,8 @@ public final class T04CodeTest {
     private static final long P = Desk.P;
 
     public static void main(String[] args) {
+        Edge.of("it works on a PILE of clear and secret NUMBERS", T04CodeTest::fullPile);
+        Edge.of("it works on a PILE of clear and secret NUMBERS", T04CodeTest::pileStays);
         Edge.of("0 the end", T04CodeTest::theEnd);
         Edge.of("1 and 8 bytes, the highest first: a NUMBER comes to the PILE", T04CodeTest::numbers);
         Edge.of("2 p: clear VARIABLE p (0 .. 12). 3 p: secret VARIABLE p (0 .. 12)", T04CodeTest::variables);
@@ -13,7 +15,10 @@ public final class T04CodeTest {
         Edge.of("15 p: clear VARIABLE p is put out. 16 p: secret one", T04CodeTest::putOut);
         Edge.of("17 p, q, r: on at place 256 * q + r, if clear VARIABLE p is 0", T04CodeTest::unless);
         Edge.of("18 q, r: on there", T04CodeTest::farPlaces);
-        Edge.of("19 p: the place of clear ARRAY p (0 .. 3) that the latest one tells, instead of it", T04CodeTest::places);
+        Edge.of("19 p: the place of clear ARRAY p (0 .. 3) that the latest one tells, instead of it", T04CodeTest::clearPlaces);
+        Edge.of("20 p: of secret ARRAY p (0 .. 3)", T04CodeTest::secretPlaces);
+        Edge.of("21 p: the latest one goes to the place of clear ARRAY p that the one below tells", T04CodeTest::toPlaces);
+        Edge.of("22 p: (clear or secret) of secret ARRAY p", T04CodeTest::toSecretPlaces);
         Edge.of("23 p, q, r: ARRAY p (0 .. 7: A .. H) becomes q + r, 24 q - r, 25 q * r", T04CodeTest::arrays);
         Edge.of("26 p, q: the sum of products of ARRAYS p and q comes to the PILE, secret", T04CodeTest::sumOfProducts);
         Edge.of("27 p: a BIT goes to secret VARIABLE p", T04CodeTest::bits);
@@ -59,6 +64,36 @@ public final class T04CodeTest {
         Desk d = new Desk();
         d.due("deal -1 200", 200).due("deal -2 200", 200).due("deal -3 200", 200).due("deal 0 200", 200).due("deal 1 200", 200);
         return d.loads(operations, code).due("begin", 1).runs();
+    }
+
+    /** All 64 that the pile can have, added up from the latest one on. */
+    private static void fullPile() {
+        int[] code = {};
+        for (int i = 1; i <= 64; i++) {
+            code = join(code, number(1000L * i));
+        }
+        int[] sums = new int[63];
+        java.util.Arrays.fill(sums, 4);
+        runs(130, join(code, sums, bytes(11, 0, 15, 0, 0))).outputs(0, 2080000).outputs(1, 2080000);
+        int[] secret = join(number(7), bytes(12, 0));
+        for (int i = 0; i < 63; i++) {
+            secret = join(secret, bytes(3, 0));
+        }
+        secret = join(secret, bytes(26, 4, 5));
+        runs(2 + 64 + 63 + 3, join(secret, sums, bytes(12, 1, 14, 0, 1, 0))).clears(0, 441).clears(1, 441);
+    }
+
+    /** What is on the pile stays there while others send, receive and check. */
+    private static void pileStays() {
+        int[][] between = {{13, 1, 0}, {14, 1, 0}, {15, 0}, {16, 0}, {27, 1}, {23, 0, 1, 2}, {25, 4, 5, 6}, {25, 4, 0, 6}};
+        for (int[] operation : between) {
+            Desk d = new Desk();
+            d.due("deal -1 32", 32).due("deal -3 2", 2).due("deal 0 1", 1).due("give 0 9", 1);
+            d.loads(7, join(number(40), number(3), operation, bytes(5, 11, 3, 15, 3, 0))).due("begin", 1).runs();
+            d.each(2, "clear", " 3", 37).each(2, "party", " 0", 2).each(2, "clear", " 12", 0);
+        }
+        runs(7, join(number(3), bytes(12, 0, 3, 0, 10, 12, 0, 14, 0, 0, 0))).each(2, "clear", " 0", 9).each(2, "clear", " 12", 0);
+        runs(8, join(number(3), bytes(12, 0, 3, 0, 3, 0, 7, 12, 0, 14, 0, 0, 0))).each(2, "clear", " 0", 9).each(2, "clear", " 12", 0);
     }
 
     private static void theEnd() {
@@ -165,20 +200,47 @@ public final class T04CodeTest {
         d.outputs(0, 10).outputs(1, 10).each(2, "clear", " 7", 2).each(2, "party", " 0", 2);
     }
 
-    private static void places() {
+    private static void clearPlaces() {
         for (int p = 0; p < 4; p++) {
             for (int place : new int[] {0, 7, 15}) {
-                int[] code = join(number(place), number(50 + p), bytes(21, p), number(place), bytes(19, p, 11, 0),
-                    number(place), number(60 + p), bytes(22, p), number(place), bytes(20, p, 12, 0, 14, 1, 0, 0));
-                runs(14, code).clears(0, 50 + p, 60 + p).due("clear 1 " + (100 + 16 * p + place), 50 + p);
+                int[] code = join(number(place), number(50 + p), bytes(21, p), number(place), bytes(19, p, 11, 0, 0));
+                runs(7, code).clears(0, 50 + p).clears(1, 50 + p);
             }
-            for (int[] wrong : new int[][] {{19, p, 11, 0}, {20, p, 12, 0}}) {
-                runs(4, join(number(16), wrong, bytes(0))).each(2, "party", " 7", 5).each(2, "party", " 1", 0);
+            runs(4, join(number(15), bytes(19, p, 11, 0, 0))).each(2, "party", " 0", 2).clears(0, 0);
+            runs(4, join(number(16), bytes(19, p, 11, 0, 0))).each(2, "party", " 7", 5).each(2, "party", " 1", 0);
+        }
+    }
+
+    private static void secretPlaces() {
+        for (int p = 0; p < 4; p++) {
+            for (int place : new int[] {0, 7, 15}) {
+                int[] code = join(number(place), number(60 + p), bytes(22, p), number(place), bytes(20, p, 12, 0, 14, 0, 0, 0));
+                runs(8, code).clears(0, 60 + p).clears(1, 60 + p).due("clear 0 " + (100 + 16 * p + place), 0);
             }
-            for (int operation : new int[] {21, 22}) {
-                runs(4, join(number(16), number(3), bytes(operation, p, 0))).each(2, "party", " 7", 5);
-                runs(4, join(number(3), number(16), bytes(operation, p, 0))).each(2, "party", " 7", 0);
+            runs(4, join(number(15), bytes(20, p, 12, 0, 0))).each(2, "party", " 0", 2);
+            runs(4, join(number(16), bytes(20, p, 12, 0, 0))).each(2, "party", " 7", 5).each(2, "party", " 1", 0);
+        }
+    }
+
+    private static void toPlaces() {
+        for (int p = 0; p < 4; p++) {
+            for (int place : new int[] {0, 7, 15}) {
+                Desk d = runs(4, join(number(place), number(70 + p), bytes(21, p, 0)));
+                for (int cell : new int[] {0, 7, 15, 16, 32, 48, 63}) {
+                    d.each(2, "clear", " " + (100 + cell), cell == 16 * p + place ? 70 + p : 0);
+                }
             }
+            runs(4, join(number(16), number(3), bytes(21, p, 0))).each(2, "party", " 7", 5);
+            runs(4, join(number(3), number(16), bytes(21, p, 0))).each(2, "party", " 7", 0);
+        }
+    }
+
+    private static void toSecretPlaces() {
+        for (int p = 0; p < 4; p++) {
+            int[] secret = join(number(8), bytes(12, 0), number(15), bytes(3, 0, 22, p), number(15), bytes(20, p, 12, 1, 14, 0, 1, 0));
+            runs(10, secret).clears(0, 8).clears(1, 8);
+            runs(4, join(number(16), number(3), bytes(22, p, 0))).each(2, "party", " 7", 5);
+            runs(4, join(number(3), number(16), bytes(22, p, 0))).each(2, "party", " 7", 0);
         }
     }
 

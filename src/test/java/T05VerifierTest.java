@@ -152,6 +152,8 @@ public final class T05VerifierTest {
         d.loads(298, far);
         far[2] = 44;
         d.isNotLoaded(2, 0, far);
+        Desk longOne = new Desk();
+        longOne.bytes(new int[2000]).due("load", 2000).isNotLoaded(2, 0, 18, 7, 207, 0).isNotLoaded(2, 0, 18, 0, 4, 0);
     }
 
     private static void formGoesAhead() {
@@ -241,7 +243,7 @@ public final class T05VerifierTest {
         Desk d = new Desk();
         for (int operation = 23; operation < 26; operation++) {
             d.isNotLoaded(3, 0, operation, 3, 4, 0, 0).isNotLoaded(3, 0, operation, 3, 0, 4, 0).isNotLoaded(3, 0, operation, 0, 7, 7, 0);
-            d.loads(2, operation, 3, 0, 3, 0).loads(2, operation, 4, 3, 0, 0).loads(2, operation, 4, 0, 5, 0).loads(2, operation, 4, 4, 4, 0);
+            d.loads(2, operation, 0, 3, 3, 0).loads(2, operation, 3, 0, 3, 0).loads(2, operation, 4, 3, 0, 0).loads(2, operation, 4, 0, 5, 0).loads(2, operation, 4, 4, 4, 0);
         }
     }
 

@@ -57,12 +57,30 @@ public final class T07RunTest {
         d.due("deliver 0 1", 1).due("step 0", 0).due("party 0 11", 1).due("party 0 12", 2).due("party 0 6", 2).due("party 0 1", 4);
         d.due("deliver 0 2", 1).due("step 0", 1).due("party 0 6", 1).due("party 0 11", 2).due("party 0 12", 2).due("step 0", 1);
         d.due("step 0", 0).due("deliver 0 2", 1).due("step 0", 0).due("deliver 0 1", 1).due("step 0", 1).due("party 0 2", 4);
+        oneFullWire();
         Desk open = new Desk();
         open.due("give 0 1", 1).due("deal 0 1", 1).starts("n<0;a:n;").all("step", 1, "0", "0").due("step 0", 0);
         open.due("deliver 0 1", 1).due("step 0", 1).due("party 1 20", 1).due("party 0 11", 1);
         Desk check = new Desk();
         check.starts("a:n;>a;").due("step 0", 1).due("step 1", 1).due("deliver 1 0", 1).due("step 0", 1).due("step 0", 0);
         check.due("party 0 11", 1).due("party 0 2", 1).due("deliver 0 1", 1).due("step 0", 1).due("party 0 2", 2);
+    }
+
+    /** Whichever wire it is that is full. */
+    private static void oneFullWire() {
+        for (int from = 0; from < 4; from++) {
+            for (int full = 0; full < 4; full++) {
+                Desk d = new Desk();
+                d.due("hall 4 0 1", 1).due("deal " + from + " 2", 2).due("give " + from + " 1", 1).due("give " + from + " 2", 1);
+                d.starts("n<0;n<0;".replace('0', (char) ('0' + from))).all("step", 1, "" + from, "" + from);
+                for (int to = 0; to < 4; to++) {
+                    if (to != from && to != full) {
+                        d.due("deliver " + from + " " + to, 1);
+                    }
+                }
+                d.due("step " + from, from == full ? 1 : 0).due("party " + from + " 2", from == full ? 2 : 1);
+            }
+        }
     }
 
     private static void missingMails() {

@@ -6,11 +6,15 @@ public final class T08CheckTest {
         Edge.of("A CHECK: four times SEND, RECEIVE (coins bound, coins shown, sums bound, sums shown)", T08CheckTest::fourTimes);
         Edge.of("of all numbers that were OPENED since the CHECK before (by 7, 10, 14, 16, 25, 26), in order", T08CheckTest::whatIsOpened);
         Edge.of("of all numbers that were OPENED since the CHECK before (by 7, 10, 14, 16, 25, 26), in order", T08CheckTest::inOrder);
+        Edge.of("of all numbers that were OPENED since the CHECK before (by 7, 10, 14, 16, 25, 26), in order", T08CheckTest::manyNumbers);
+        Edge.of("of all numbers that were OPENED since the CHECK before (by 7, 10, 14, 16, 25, 26), in order",
+            T08CheckTest::errorsOfTheCheckAlone);
         Edge.of("none at all (no STEPS; it is not counted either), if there are none", T08CheckTest::noneOpened);
         Edge.of("In the first SEND a PARTY takes its coin and a nonce, in the third one (sums bound) another nonce", T08CheckTest::drawn);
         Edge.of("its own GENERATOR's NEXTs (which go on from RUN to RUN; a HALL begins them anew)", T08CheckTest::goOn);
         Edge.of("With the last RECEIVE a PARTY FAILS (CAUSE 1)", T08CheckTest::withTheLastReceive);
         Edge.of("if KEY * (r1 * e1 + r2 * e2 + ..) is not 0", T08CheckTest::thatFitTheCoins);
+        Edge.of("r are the NEXTs of a GENERATOR that has the sum of all coins (modulo P)", T08CheckTest::coinsThatWrap);
         Edge.of("e is the ERROR that was added to that number in all", T08CheckTest::thatCancelOut);
         Edge.of("It puts a NOTICE on each of its WIRES then (whatever the BOUND)", T08CheckTest::noticesOnFullWires);
         Edge.of("Once a NOTICE is delivered to a PARTY that goes on, it FAILS at its next STEP, instead of that",
@@ -55,6 +59,42 @@ public final class T08CheckTest {
             fitting(2, "E=F*G;a:n;>a;", 0, 0, new int[][] {{0, 31, 31}, {1, 0, 32}}, change);
             fitting(4, "n=n^;c:n;G=E*F;p=E.F;>c;", 0, 0, new int[][] {{2, 30, 32}, {3, 1, 35}}, change);
             fitting(2, "o<0;n!;a:n;H=A*E;n=A.E;b:n;>a;", 0, 0, new int[][] {{1, 0, 0}, {1, 0, 1}}, change);
+        }
+    }
+
+    /** Errors far behind the fortieth number are found as well, and forty of them are weighed. */
+    private static void manyNumbers() {
+        for (int n = 0; n < 3; n++) {
+            Desk d = new Desk().ready(2, "E=F*G;E=F*G;E=F*G;>a;").due("tamper 1 " + n + " 31 1", 1).runs();
+            d.each(2, "party", " 9", 1).each(2, "party", " 8", 1);
+        }
+        for (int change = 0; change < 2; change++) {
+            BigInteger p = BigInteger.valueOf(Desk.P);
+            long coins = coins(2, 0);
+            BigInteger sum = BigInteger.ZERO;
+            Desk d = new Desk().ready(2, "E=F*G;" + "a:n;".repeat(8) + ">a;");
+            for (int i = 0; i < 39; i++) {
+                sum = sum.add(BigInteger.valueOf(P19BoundTest.next(coins, i)));
+                d.due(i < 32 ? "tamper 0 0 " + i + " 1" : "tamper 1 " + (i - 31) + " 0 1", 1);
+            }
+            BigInteger last = sum.negate().multiply(BigInteger.valueOf(P19BoundTest.next(coins, 39)).modInverse(p)).mod(p);
+            d.due("tamper 0 8 0 " + (last.longValue() + change), 1).runs().each(2, "party", " 9", change);
+        }
+    }
+
+    /** Neither the errors of a run before nor those of a check before are weighed again. */
+    private static void errorsOfTheCheckAlone() {
+        for (int change = 0; change < 2; change++) {
+            Desk d = new Desk().ready(2, "p=n*o;b:n;c:n;d:n;>q;>q;");
+            for (int n = 1; n < 4; n++) {
+                d.due("tamper 0 " + n + " 0 " + n, 1);
+            }
+            d.runs().each(2, "party", " 9", 1).due("begin", 1);
+            d.due("tamper 0 0 1 5", 1).due("tamper 1 1 0 " + (fitting(coins(2, 3), 1, 2) + change), 1).runs();
+            d.each(2, "party", " 9", change).each(2, "party", " 8", change == 0 ? 3 : 1).each(2, "party", " 4", change == 0 ? 2 : 0);
+            if (change == 0) {
+                d.outputs(0, 0, 0).outputs(1, 0, 0);
+            }
         }
     }
 
@@ -136,19 +176,46 @@ public final class T08CheckTest {
      * some of its numbers, and so many checks have been.
      */
     private static void fitting(int parties, String text, int drawn, int skipped, int[][] errors, int change) {
-        BigInteger p = BigInteger.valueOf(Desk.P);
-        BigInteger coins = BigInteger.ZERO;
-        for (int i = 0; i < parties; i++) {
-            coins = coins.add(BigInteger.valueOf(P19BoundTest.next(77 + 1000003L * (i + 1), drawn))).mod(p);
-        }
-        BigInteger first = BigInteger.valueOf(P19BoundTest.next(coins.longValue(), errors[0][2]));
-        BigInteger second = BigInteger.valueOf(P19BoundTest.next(coins.longValue(), errors[1][2]));
-        BigInteger e = first.multiply(BigInteger.valueOf(-5)).multiply(second.modInverse(p)).mod(p);
+        long e = fitting(coins(parties, drawn), errors[0][2], errors[1][2]);
         Desk d = new Desk().ready(parties, text).due("give 0 1", 1);
         d.due("tamper 0 " + errors[0][0] + " " + errors[0][1] + " 5", 1);
-        d.due("tamper 1 " + errors[1][0] + " " + errors[1][1] + " " + (e.longValue() + change), 1).runs();
+        d.due("tamper 1 " + errors[1][0] + " " + errors[1][1] + " " + (e + change), 1).runs();
         d.each(parties, "party", " 9", change).each(parties, "party", " 8", 1 + (skipped == 0 ? 0 : 2));
         d.each(parties, "party", " 0", change == 0 ? 2 : 3);
+    }
+
+    /** Sums of two coins below P and beyond it. */
+    private static void coinsThatWrap() {
+        int below = 0;
+        for (long seed = 0; seed < 8; seed++) {
+            BigInteger sum = coinSum(2, seed, 0);
+            long coins = sum.mod(BigInteger.valueOf(Desk.P)).longValue();
+            below += sum.longValueExact() == coins ? 1 : 0;
+            Desk d = new Desk().due("hall 2 " + seed + " 1", 1).starts("a:n;b:n;>a;").due("tamper 0 0 0 5", 1);
+            d.due("tamper 0 1 0 " + fitting(coins, 0, 1), 1).runs().each(2, "party", " 0", 2).outputs(0, 5).outputs(1, 5);
+        }
+        Desk.same("some sums are below P and some are not", below > 0 && below < 8, true);
+    }
+
+    private static BigInteger coinSum(int parties, long seed, int drawn) {
+        BigInteger sum = BigInteger.ZERO;
+        for (int i = 0; i < parties; i++) {
+            sum = sum.add(BigInteger.valueOf(P19BoundTest.next(seed + 1000003L * (i + 1), drawn)));
+        }
+        return sum;
+    }
+
+    /** The sum of all coins, in a hall as the tests' desk makes it ready. */
+    private static long coins(int parties, int drawn) {
+        return coinSum(parties, 77, drawn).mod(BigInteger.valueOf(Desk.P)).longValue();
+    }
+
+    /** The error in one number of a check that goes with an error of 5 in another one. */
+    private static long fitting(long coins, int withFive, int other) {
+        BigInteger p = BigInteger.valueOf(Desk.P);
+        BigInteger first = BigInteger.valueOf(P19BoundTest.next(coins, withFive));
+        BigInteger second = BigInteger.valueOf(P19BoundTest.next(coins, other));
+        return first.multiply(BigInteger.valueOf(-5)).multiply(second.modInverse(p)).mod(p).longValue();
     }
 
     private static void thatCancelOut() {
