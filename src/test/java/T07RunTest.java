@@ -5,6 +5,7 @@ public final class T07RunTest {
         Edge.of("each OPERATION is one, but 1, 2, 3, 0, which are none", T07RunTest::whatIsAStep);
         Edge.of("(WAITS, if one of these has as many as the BOUND)", T07RunTest::fullWires);
         Edge.of("(one's own is there at once; WAITS, if one is missing)", T07RunTest::missingMails);
+        Edge.of("A STEP is DONE, or it WAITS", T07RunTest::eachSendAndReceiveWaits);
         Edge.of("13: PARTY q takes its next input and a MASK, and SENDS (a STEP); each PARTY RECEIVES (a STEP)", T07RunTest::inputs);
         Edge.of("7: SEND two numbers, RECEIVE. 10: SEND one, RECEIVE", T07RunTest::exchanges);
         Edge.of("25, 26 of two secret ARRAYS: SEND 32 numbers", T07RunTest::exchangesOfArrays);
@@ -89,6 +90,27 @@ public final class T07RunTest {
         d.due("deliver 3 0", 1).due("step 0", 0).due("party 0 21", 1).due("party 0 23", 1).due("party 0 22", 0).due("party 0 3", 0);
         d.due("deliver 2 0", 1).due("step 0", 1).all("party 0", 0, "21", "22", "23").due("party 0 3", 1).due("party 0 0", 2);
         d.due("step 1", 0).due("party 1 0", 1).due("party 0 11", 1);
+    }
+
+    /**
+     * At each receive the other one's mail is missing first, and at each send the wire is full of the
+     * mail before; the programs have nothing but sends and receives till a number is put out.
+     */
+    private static void eachSendAndReceiveWaits() {
+        String[] texts = {"a:n;>n;", "E=F*G;>a;", ">n;", "a:n;b:n;E=F*E;>n;"};
+        int[] exchanges = {1 + 4 + 1 + 4, 1 + 4, 1 + 4, 3 + 4 + 1 + 4};
+        for (int i = 0; i < texts.length; i++) {
+            Desk d = new Desk().due("deal -1 16", 16).starts(texts[i]).due("step 0", 1);
+            for (int k = 1; k <= exchanges[i]; k++) {
+                d.due("step 0", 0).due("step 1", 1).due("step 0", 0).due("deliver 1 0", 1).due("step 0", 1).due("party 0 3", k);
+                if (k < exchanges[i]) {
+                    d.due("step 0", 0).due("step 1", 0).due("party 0 2", k).due("deliver 0 1", 1).due("step 0", 1).due("step 1", 1);
+                }
+            }
+            d.due("party 0 4", 0).due("step 0", 1).due("party 0 4", 1).due("party 0 0", 2).due("party 0 1", 2 * exchanges[i] + 1);
+        }
+        Desk full = new Desk().due("deal 0 1", 1).due("give 0 5", 1).starts("n<0;>n;").all("step", 1, "0", "0").due("step 0", 0);
+        full.due("party 0 2", 1).due("deliver 0 1", 1).due("step 0", 1).due("party 0 2", 2).due("step 0", 0);
     }
 
     private static void inputs() {
