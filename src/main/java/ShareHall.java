@@ -1525,8 +1525,9 @@ public final class ShareHall {
             steps = 0;
         }
 
+        /** Each number that is put out is a step, so the row need not be longer than all steps. */
         void putOut(long v) {
-            if (outCount >= outs.length) {
+            if (outCount >= outs.length && outs.length < MOST_STEPS) {
                 long[] longer = new long[2 * outs.length];
                 System.arraycopy(outs, 0, longer, 0, outs.length);
                 outs = longer;

@@ -4,6 +4,7 @@ public final class P17OutputTest {
         Edge.of("The k-th number that a PARTY has put out in this RUN", P17OutputTest::inOrder);
         Edge.of("The k-th number that a PARTY has put out in this RUN", P17OutputTest::ofEachParty);
         Edge.of("The k-th number that a PARTY has put out in this RUN", P17OutputTest::many);
+        Edge.of("The k-th number that a PARTY has put out in this RUN", P17OutputTest::nearlyAsManyAsSteps);
         Edge.of("NoSuchElementException: there is none such", P17OutputTest::noneSuch);
         Edge.of("NoSuchElementException: there is none such", P17OutputTest::otherRuns);
         Edge.end();
@@ -31,6 +32,17 @@ public final class P17OutputTest {
             d.due("output 0 " + k, k + 1).due("output 1 " + k, k + 1);
         }
         d.due("output 0 3000", Desk.ELEMENT).due("begin", 1).due("output 0 0", Desk.ELEMENT);
+    }
+
+    /** One party lacks a bit, so that the other one has nearly all 30000 steps for putting out. */
+    private static void nearlyAsManyAsSteps() {
+        Desk d = new Desk().bytes(27, 0, 1, 0, 0, 0, 0, 0, 0, 0, 7, 11, 0).bytes(T05VerifierTest.repeat(991, 15, 0)).bytes(18, 0, 13, 0);
+        d.due("load", 996).due("begin", 1).due("step 1", 4).due("deal -3 1", 1);
+        for (int i = 0; i < 15; i++) {
+            d.due("run 2000", 2000);
+        }
+        d.due("run 2000", 0).due("party 0 1", 30000).due("party 0 4", 29968).due("party 1 4", 0);
+        d.all("output", 7, "0 0", "0 8191", "0 8192", "0 16383", "0 16384", "0 29967").all("output", Desk.ELEMENT, "0 29968", "0 32768", "1 0");
     }
 
     private static void noneSuch() {
